@@ -726,7 +726,7 @@ public final class CopyKeeper {
         }
 
         int copiesOf(int work) {
-            int copies = storedOf(work);
+            int copies = cell[STORED + work];
             for (int library = 0; library < cell[LIBRARIES]; library++) {
                 copies += cell[HELD + library * MOST_WORKS + work];
             }
@@ -1571,9 +1571,7 @@ public final class CopyKeeper {
 
         int apart(Stock stock, int library) {
             scales.load(stock);
-            for (int work = 0; work < stock.works(); work++) {
-                scales.setOffer(library, work, 0);
-            }
+            // who can withdraw none may as well have OFFERS
             scales.setLibrary(library, 0, 0);
             return scales.space(0);
         }
@@ -1732,7 +1730,7 @@ public final class CopyKeeper {
                         continue;
                     }
                     for (int work = 0; work < scales.works; work++) {
-                        if (trial.mayGive(library, to, work) && ends(library, to, work, worst)) {
+                        if (trial.mayGive(library, to, work) && ends(library, work, worst)) {
                             return 100 * library + 10 * to + work;
                         }
                     }
@@ -1742,32 +1740,29 @@ public final class CopyKeeper {
         }
 
         /** Whether no set lacks any more; the worst one is asked first, as it mostly tells. */
-        private boolean ends(int library, int to, int work, int worst) {
-            // with more PROMISED than there is, one copy more is no OFFER
-            boolean owing = trial.promiseCounts(to, work) && trial.heldIn(to, work) < trial.muchOf(to, work);
-            int offersMore = owing ? 0 : 1;
-            if (lackThen(library, to, work, offersMore, worst) > 0) {
+        private boolean ends(int library, int work, int worst) {
+            if (lackThen(library, work, worst) > 0) {
                 return false;
             }
             for (int set = 1; set < scales.sets; set++) {
-                if (lackThen(library, to, work, offersMore, set) > 0) {
+                if (lackThen(library, work, set) > 0) {
                     return false;
                 }
             }
             return true;
         }
 
-        /** LACK of a set, were a copy GIVEN: SPARE stays, and who may get one has no NEED then either. */
-        private int lackThen(int library, int to, int work, int offersMore, int set) {
+        /**
+         * LACK of a set, were a copy GIVEN by a LIBRARY: SPARE stays. Who may get it has ROOM, so no NEED then
+         * either: a set with it lacks no more than without, whatever it OFFERS; so it isn't looked at.
+         */
+        private int lackThen(int library, int work, int set) {
             int at = work * MOST_SETS + set;
             int lack = lacks[set];
             int offers = scales.offers[at];
             if ((set >> library & 1) != 0) {
                 lack -= scales.need[library] > 0 ? 1 : 0;
                 offers--;
-            }
-            if ((set >> to & 1) != 0) {
-                offers += offersMore;
             }
             return lack + scales.can[at] - Math.min(offers, scales.spare[work]);
         }

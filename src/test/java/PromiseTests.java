@@ -138,7 +138,14 @@ public final class PromiseTests {
 
     private static void faults() {
         refused("libraries 1;", 1, 0);
+        refused("libraryz 1;", 1, 0);
+        refused("alibrary 1;", 1, 0);
+        refused("zwork 1 1;", 1, 0);
+        refused("librar 1;", 1, 0);
         refused("Library 1;", 1, 0);
+        refused("{library 1;", 1, 0);
+        refused("library 1/;", 1, 9);
+        refused("library 1:;", 1, 9);
         refused("library;", 1, 7);
         refused("library 1", 1, 9);
         refused("library 1  ", 1, 11);
@@ -639,6 +646,21 @@ public final class PromiseTests {
         due("none is refused", 0, () -> x.count(21));
     }
 
+    /** More ACTS than the ring goes round twice. */
+    private static void p20more() {
+        CopyKeeper x = with("library 0;work 1 0;");
+        for (int i = 0; i < 150; i++) {
+            int copies = i % 16, before = i == 0 ? 0 : (i - 1) % 16;
+            due("keep", before, () -> x.keep(0, copies));
+        }
+        for (int i = 39; i >= 0; i--) {
+            int left = i, keep = (i + 109) % 16;
+            due("left", left, x::undo);
+            due("KEEP", keep, () -> x.work(0, 1));
+        }
+        due("none", NONE, x::undo);
+    }
+
     private static void p21() {
         CopyKeeper x = new CopyKeeper();
         int[] spaces = {NONE, 0, 999, 0, 5, 5};
@@ -781,6 +803,7 @@ public final class PromiseTests {
             due("YEAR", 0, () -> x.count(2));
             x.forget();
         }
+        otherActs();
         x.image();
         due("in place of the other one", 1, () -> x.restore() ? 1 : 0);
         due("YEAR", 0, () -> x.count(2));
@@ -788,11 +811,38 @@ public final class PromiseTests {
         due("the tape is not in it", 0, () -> x.count(19));
     }
 
+    /** ACTS of an IMAGE stand again, though others took their places. */
+    private static void otherActs() {
+        CopyKeeper x = with(TWO);
+        due("carry", 5, x::carry);
+        due("keep", 1, () -> x.keep(1, 9));
+        due("promise", 1, () -> x.promise(0, 0, 2, 5));
+        x.image();
+        for (int i = 2; i >= 0; i--) {
+            int left = i;
+            due("undo", left, x::undo);
+        }
+        due("years", 2, () -> x.years(2));
+        due("own", 1, () -> x.own(1, 1, 3));
+        due("wish", 4, () -> x.room(1, 1, 3));
+        due("keep", 2, () -> x.keep(0, 3));
+        due("restore", 1, () -> x.restore() ? 1 : 0);
+        due("ACTS", 3, () -> x.count(17));
+        due("undo", 2, x::undo);
+        due("PROMISE", 4, () -> x.held(0, 0, 2));
+        due("undo", 1, x::undo);
+        due("KEEP", 1, () -> x.work(1, 1));
+        due("undo", 0, x::undo);
+        due("HELD", 8, () -> x.count(3));
+        due("of WORK 1", 1, () -> x.held(1, 1, 0));
+    }
+
     public static void main(String[] args) {
         Runnable[] all = {PromiseTests::p1, PromiseTests::p2, PromiseTests::p3, PromiseTests::p4, PromiseTests::p5,
             () -> { p6(); p6more(); }, PromiseTests::p7, PromiseTests::p8, PromiseTests::p9, PromiseTests::p10,
             PromiseTests::p11, PromiseTests::p12, PromiseTests::p13, PromiseTests::p14, PromiseTests::p15,
-            PromiseTests::p16, PromiseTests::p17, PromiseTests::p18, PromiseTests::p19, PromiseTests::p20,
+            PromiseTests::p16, PromiseTests::p17, PromiseTests::p18, PromiseTests::p19,
+            () -> { p20(); p20more(); },
             PromiseTests::p21, PromiseTests::p22, PromiseTests::p23, PromiseTests::p24, PromiseTests::p25,
             PromiseTests::p26and27};
         for (Runnable each : all) {

@@ -209,6 +209,57 @@ public final class RandomRuns {
         }
     }
 
+    /** One question alone, so that none is answered by what the one before it left. */
+    void askOne() {
+        int l = about(libraries), w = about(works);
+        switch (below(6)) {
+            case 0: {
+                int k = below(28);
+                if (libraries * works > 9 && (k == 23 || k == 24)) return;
+                same("count " + k, () -> desk.count(k), () -> model.count(k));
+                break;
+            }
+            case 1: {
+                int k = below(13);
+                same("library " + l + " " + k, () -> desk.library(l, k), () -> model.library(l, k));
+                break;
+            }
+            case 2: {
+                int k = below(11);
+                same("work " + w + " " + k, () -> desk.work(w, k), () -> model.work(w, k));
+                break;
+            }
+            case 3: {
+                int k = below(7);
+                same("held " + l + " " + w + " " + k, () -> desk.held(l, w, k), () -> model.held(l, w, k));
+                break;
+            }
+            case 4: {
+                int k = below(libraries + 1) - 1;
+                same("order " + k, () -> desk.order(k), () -> model.order(k));
+                break;
+            }
+            default: {
+                int k = below(5);
+                if (libraries * works > 9) return;
+                if (k < 2) same("look " + k, () -> desk.look(k), () -> model.look(k));
+                else same("fits " + (k - 2), () -> desk.fits(k - 2), () -> model.fits(k - 2));
+            }
+        }
+    }
+
+    /** Single questions, ACTS, notes and TEXTS, as they come. */
+    void runMixed() {
+        put(text(3, 3, 2 + below(9)));
+        for (int i = 0; i < 120; i++) {
+            int kind = below(20);
+            if (kind == 0) put(text(3, 3, 2 + below(9)));
+            else if (kind < 4) notes();
+            else if (kind < 12) act();
+            else askOne();
+        }
+    }
+
     void askNotes() {
         for (int i = -1; i <= 3; i++) {
             int k = i;
@@ -284,6 +335,7 @@ public final class RandomRuns {
             for (long i = 0; i < 6L * times; i++) new RandomRuns(from + 30000000 + i).run(5, 6, 2, true);
             for (long i = 0; i < 400L * times; i++) new RandomRuns(from + 40000000 + i).runText();
             for (long i = 0; i < 12L * times; i++) new RandomRuns(from + 50000000 + i).runActs();
+            for (long i = 0; i < 150L * times; i++) new RandomRuns(from + 60000000 + i).runMixed();
         } catch (IllegalStateException e) {
             System.out.println(e.getMessage());
             wrong++;
