@@ -804,6 +804,7 @@ public final class PromiseTests {
             x.forget();
         }
         otherActs();
+        actsGoneRound();
         x.image();
         due("in place of the other one", 1, () -> x.restore() ? 1 : 0);
         due("YEAR", 0, () -> x.count(2));
@@ -835,6 +836,23 @@ public final class PromiseTests {
         due("undo", 0, x::undo);
         due("HELD", 8, () -> x.count(3));
         due("of WORK 1", 1, () -> x.held(1, 1, 0));
+    }
+
+    /** An IMAGE of ACTS of which the oldest are no longer kept. */
+    private static void actsGoneRound() {
+        CopyKeeper x = with("work 1 0;");
+        for (int i = 1; i <= 50; i++) {
+            int copies = i % 16;
+            due("keep", (i - 1) % 16, () -> x.keep(0, copies));
+        }
+        x.image();
+        for (int i = 0; i < 7; i++) due("keep", i == 0 ? 2 : 15, () -> x.keep(0, 15));
+        due("restore", 1, () -> x.restore() ? 1 : 0);
+        for (int i = 39; i >= 0; i--) {
+            int left = i, keep = (i + 10) % 16;
+            due("undo", left, x::undo);
+            due("KEEP", keep, () -> x.work(0, 1));
+        }
     }
 
     public static void main(String[] args) {
