@@ -187,6 +187,34 @@ public final class BoundaryOfNotes extends Sheet {
             is("only it itself is so", 0, x.fits(0));
             is("that isn't among these", NONE, x.look(0));
             is("how many", 0, x.look(1));
+            x.forget();
+            x.note(2);
+            is("one fits", 1, x.fits(0));
+            is("which", 0, x.look(0));
+            is("how many", 1, x.look(1));
+        });
+        holds(23, "SPACE (or none) is by these most unlike", () -> {
+            // 0 can't be rid of what it PROMISED; 1 has room enough
+            CopyKeeper x = with("library 1 0;library 9;work 1 0;work 1 0;holds 0 0 1;promise 0 0 1 9;holds 1 1 2;");
+            is("2 by KEEPS of WORK 0, 1 and 0 by those of WORK 1", 1, x.look(0));
+            is("three", 3, x.look(1));
+            // KEEPS of WORK 1 don't meet with those of WORK 0
+            CopyKeeper y = with("library 9;work 1 0;work 1 0;holds 0 0 2;holds 0 1 1;");
+            is("2 1 by KEEPS of WORK 0, 2 by those of WORK 1", 2, y.look(1));
+            // SPACES 80 72 .. 0 and none
+            CopyKeeper z = with("library 9;library 9;library 9;library 1;work 8 15;holds 0 0 3;holds 1 0 3;holds 2 0 3;holds 3 0 1;");
+            is("80 72 .. 8 and 0; by the last one none instead of 0: the first", 0, z.look(0));
+            is("eleven", 11, z.look(1));
+            // the greatest SPACES: 810 less 9 for each copy
+            CopyKeeper w = with("library 0;".repeat(5) + "work 9 0;".repeat(6) + Tape.pairs(5, 6, "holds", "3"));
+            is("none by any: all must go", 1, w.look(1));
+            for (int l = 0; l < 5; l++) w.room(l, 0, 18);
+            is("801 to 675, as all LIBRARIES have room", 15, w.look(1));
+            is("the first", 0, w.look(0));
+            is("note", 1, w.note(801));
+            is("KEEP 1 of each WORK", 6, w.fits(0));
+            is("note", 2, w.note(810));
+            is("not both", 0, w.fits(0));
         });
     }
 
@@ -483,8 +511,36 @@ public final class BoundaryOfNotes extends Sheet {
             is("what is NOTED", 1, x.fits(2));
             is("the ACT", 0, x.undo());
             is("YEAR", 0, x.count(2));
+            is("restore", 1, kept(x));
+            x.forget();
+            is("note", 1, x.note(77));
+            is("not so", 0, x.fits(2));
+            is("restore", 1, kept(x));
+            is("what was NOTED", 1, x.fits(2));
+            x.image();
+            x.forget();
+            is("note", 1, x.note(77));
+            x.image();
+            x.forget();
+            is("restore", 1, kept(x));
+            is("what was NOTED ahead of that one", 0, x.fits(2));
             is("the tape isn't in it", 20, x.count(19));
             is("nor is the FAULT's place", 1, x.fault());
+        });
+        holds(27, "It is as the IMAGE again", () -> {
+            // THE PLAN was asked for right ahead of it
+            CopyKeeper x = with("library 9;work 2 0;holds 0 0 3;");
+            x.image();
+            is("keep", 0, x.keep(0, 2));
+            same("THE PLAN", "1", plan(x));
+            is("restore", 1, kept(x));
+            same("THE PLAN", "3", plan(x));
+            is("carry", 3, x.carry());
+            same("THE PLAN", "0", plan(x));
+            is("restore", 1, kept(x));
+            is("carry", 3, x.carry());
+            is("undo", 0, x.undo());
+            same("THE PLAN", "3", plan(x));
         });
         holds(26, "ACTS that are kept", () -> {
             // 40 are kept in the image; others come into their places, and it stands again

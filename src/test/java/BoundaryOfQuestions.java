@@ -1,3 +1,6 @@
+import java.util.ArrayList;
+import java.util.List;
+
 /** Boundary cases of promises 5 to 10: what is asked, and the terms behind it. */
 public final class BoundaryOfQuestions extends Sheet {
     /** Numbers that no 'what', LIBRARY or WORK can be. */
@@ -8,6 +11,7 @@ public final class BoundaryOfQuestions extends Sheet {
 
     public static void main(String[] args) {
         counts();
+        full();
         stock();
         ways();
         plans();
@@ -22,6 +26,7 @@ public final class BoundaryOfQuestions extends Sheet {
         pairs();
         lacks();
         orders();
+        alone();
         end();
     }
 
@@ -34,9 +39,7 @@ public final class BoundaryOfQuestions extends Sheet {
             }
         });
         holds(5, "3 copies that all LIBRARIES HOLD", () -> {
-            StringBuilder all = new StringBuilder(FULL);
-            for (int l = 0; l < 5; l++) for (int w = 0; w < 6; w++) all.append("holds ").append(l).append(' ').append(w).append(" 3;");
-            CopyKeeper x = with(all.toString());
+            CopyKeeper x = with(FULL + Tape.pairs(5, 6, "holds", "3"));
             is("the most", 90, x.count(3));
             is("all go", 90, x.count(7));
             is("SPACE", 90, x.count(6));
@@ -82,6 +85,53 @@ public final class BoundaryOfQuestions extends Sheet {
         });
     }
 
+    private static void full() {
+        holds(5, "LIBRARIES 0, 1 .. (at most 5)", () -> {
+            // all that can be told of LIBRARIES and WORKS is told, and all of it PROMISED
+            CopyKeeper x = with("library 18;".repeat(5) + "work 9 15;".repeat(6) + Tape.pairs(5, 6, "holds", "3") + "store 20;");
+            for (int l = 0; l < 5; l++) for (int w = 0; w < 6; w++) is("promise", 0, x.promise(l, w, 3, 60));
+            is("copies", 90, x.count(3));
+            is("SPACE", 0, x.count(6));
+            is("LAST", 0, x.count(15));
+            is("SHORT", 0, x.count(16));
+            is("LATE", 0, x.count(12));
+            is("IN THE WAY: SPARE is 0 as well", 0, x.count(13));
+            for (int l = 0; l < 5; l++) {
+                is("copies of " + l, 18, x.library(l, 2));
+                is("NEED", 0, x.library(l, 3));
+                is("LOST", 63, x.library(l, 7));
+                is("none left", 0, x.library(l, 8));
+            }
+            for (int w = 0; w < 6; w++) {
+                is("copies of " + w, 15, x.work(w, 2));
+                is("SPARE", 0, x.work(w, 3));
+                is("SHORT", 0, x.work(w, 4));
+                is("who HOLDS it", 31, x.work(w, 7));
+                is("SAFE", 1, x.work(w, 9));
+                is("keep", 15, x.keep(w, 1));
+                is("SAFE", 5, x.work(w, 9));
+            }
+            is("IN THE WAY: each", 30, x.count(13));
+            is("the first", 0, x.count(14));
+            is("SPACE", 0, x.count(6));
+            is("room", 18, x.room(4, 0, 0));
+            is("no PLAN", 0, x.count(5));
+            is("SHORTAGE", 18, x.count(9));
+            is("of the last", 16, x.count(10));
+            is("of none that it OFFERS", 0, x.count(11));
+            is("LATE", 61, x.count(12));
+            is("one alone isn't IN THE WAY", 0, x.count(13));
+            is("HELP", NONE, x.count(23));
+            for (int w = 0; w < 6; w++) is("none", 3, x.promise(4, w, 0, 0));
+            is("a PLAN", 1, x.count(5));
+            is("all of the last go", 18, x.count(7));
+            is("SPACE", 162, x.count(6));
+            is("carry", 18, x.carry());
+            is("none in it", 0, x.library(4, 2));
+            is("others as before", 18, x.library(3, 2));
+        });
+    }
+
     private static void stock() {
         holds(5, "LAST: WORKS of which there is just one copy.", () -> {
             CopyKeeper x = with("library 9;library 9;work 1 0;work 1 0;work 1 0;work 1 0;store 1;"
@@ -95,6 +145,8 @@ public final class BoundaryOfQuestions extends Sheet {
             is("none is left", 2, x.count(15));
             is("KEEP isn't looked at", 0, x.keep(1, 15));
             is("LAST", 2, x.count(15));
+            is("own", 0, x.own(1, 0, 1));
+            is("WORK 0 as well", 3, x.count(15));
         });
         holds(7, "SPARE of a WORK: its copies less KEEP (0, if that is more: then it is SHORT by the rest).", () -> {
             CopyKeeper x = with("library 9;work 1 2;holds 0 0 3;");
@@ -400,9 +452,7 @@ public final class BoundaryOfQuestions extends Sheet {
         });
         holds(7, "how much more KEEP (0 to 15)", () -> {
             // 18 copies, of which 2, then 3 must go: 16 or 15 might be kept
-            StringBuilder all = new StringBuilder("library 1;library 9;library 9;library 9;library 9;work 1 0;");
-            for (int l = 0; l < 5; l++) all.append("holds ").append(l).append(" 0 3;");
-            CopyKeeper x = with(all + "store 3;");
+            CopyKeeper x = with("library 1;" + "library 9;".repeat(4) + "work 1 0;" + Tape.pairs(5, 1, "holds", "3") + "store 3;");
             for (int i = 1; i <= 3; i++) is("send", i, x.send(1, 0));
             is("own", 0, x.own(1, 0, 3));
             is("copies", 18, x.work(0, 2));
@@ -459,7 +509,6 @@ public final class BoundaryOfQuestions extends Sheet {
             is("one", 1, x.promise(0, 0, 0, 0));
             is("SPACE would be more", 1, x.count(13));
             is("first", 1, x.count(14));
-            // one of SPACE 0 is more than none
             CopyKeeper y = with("library 0;library 0;work 1 2;holds 0 0 1;holds 1 0 1;promise 0 0 1 1;");
             is("SPARE is in the way, not the PROMISE", 0, y.count(13));
         });
@@ -501,15 +550,21 @@ public final class BoundaryOfQuestions extends Sheet {
         });
         holds(5, "LIBRARIES a, b (a the lesser), WORKS i, j (unlike, either order)", () -> {
             // 0 withdraws WORKS 0 and 1, 1 withdraws 2 and 3, of all of which both have one
-            StringBuilder all = new StringBuilder("library 9 2;library 9 2;library 9 0;work 1 1;work 1 1;work 1 1;work 1 1;");
-            for (int l = 0; l < 2; l++) for (int w = 0; w < 4; w++) all.append("holds ").append(l).append(' ').append(w).append(" 1;");
-            CopyKeeper x = with(all.toString());
+            CopyKeeper x = with("library 9 2;library 9 2;library 9 0;" + "work 1 1;".repeat(4) + Tape.pairs(2, 4, "holds", "1"));
             same("THE PLAN", "1100 0011 0000", plan(x));
             is("2 times 2", 4, x.count(8));
             x.promise(1, 1, 1, 0);
             is("1 times 2", 2, x.count(8));
             x.room(2, 1, 9);
             is("a third one that has nothing", 2, x.count(8));
+            // both withdraw one of two of WORK 0: i and j must be unlike
+            CopyKeeper y = with("library 9 2;library 9 1;work 1 2;work 9 0;holds 0 0 2;holds 0 1 1;holds 1 0 2;");
+            same("THE PLAN", "11 10", plan(y));
+            is("none", 0, y.count(8));
+            is("own", 0, y.own(1, 1, 1));
+            is("wish", 1, y.room(1, 1, 2));
+            same("THE PLAN", "11 11", plan(y));
+            is("none, as each withdraws all of WORK 1", 0, y.count(8));
         });
     }
 
@@ -564,6 +619,16 @@ public final class BoundaryOfQuestions extends Sheet {
             is("give", 1, y.give(0, 1, 0));
             is("then the other", 230, y.count(24));
             is("one", 1, y.count(23));
+            // 2 must be rid of two of WORK 1; what 1 could GIVE is no help
+            CopyKeeper z = with("library 9;library 9;library 1;work 1 9;work 1 15;holds 1 1 1;holds 2 0 1;holds 2 1 2;promise 2 0 1 0;");
+            is("two", 2, z.count(23));
+            is("by 2 to 0, WORK 1", 201, z.count(24));
+            is("room", 9, z.room(0, 0, 1));
+            is("the second one goes to 1", 201, z.count(24));
+            is("room", 1, z.room(0, 0, 0));
+            is("both go to 1", 211, z.count(24));
+            is("room", 9, z.room(1, 0, 2));
+            is("only one can", NONE, z.count(24));
         });
         holds(5, "each as an ACT could", () -> {
             // 0 must be rid of one: WORK 0 is PROMISED, of WORK 1 none may go
@@ -575,6 +640,20 @@ public final class BoundaryOfQuestions extends Sheet {
             is("1 is full", 21, x.count(24));
             x.room(2, 0, 0);
             is("2 too", NONE, x.count(24));
+            // who GIVES the one copy that it could withdraw lacks as much as before
+            CopyKeeper y = with("library 0;library 9;work 1 0;work 1 1;holds 0 0 1;holds 0 1 1;holds 1 1 1;promise 0 0 1 0;");
+            is("SHORTAGE", 1, y.count(9));
+            is("no help", NONE, y.count(23));
+            is("give", 2, y.give(0, 1, 1));
+            is("SHORTAGE", 1, y.count(9));
+            // 1 makes room first, by what only 0 can get
+            CopyKeeper z = with("library 9;library 2;library 2;work 1 15;work 1 15;work 1 15;holds 0 1 3;holds 1 0 1;holds 1 2 1;holds 2 1 3;");
+            is("SHORTAGE", 1, z.count(9));
+            is("two", 2, z.count(23));
+            is("by 1 to 0, WORK 0", 100, z.count(24));
+            is("room", 2, z.room(2, 0, 1));
+            is("four would be needed", NONE, z.count(23));
+            is("none", NONE, z.count(24));
         });
     }
 
@@ -607,6 +686,12 @@ public final class BoundaryOfQuestions extends Sheet {
             is("keep", 1, x.keep(2, 2));
             is("SHORT without it, too", 6, x.library(0, 7));
             is("SHORT with any", 4, x.library(1, 7));
+            is("own", 1, x.own(1, 0, 0));
+            is("all of WORK 0 are in 0", 7, x.library(0, 7));
+            is("none is left then", 1, x.library(0, 8));
+            is("send", 1, x.send(0, 0));
+            is("one is left, as KEEP is", 6, x.library(0, 7));
+            is("one is left", 0, x.library(0, 8));
         });
         holds(6, "APART from a LIBRARY: SPACE of THE PLAN if it had no OFFER of anything, and no NEED; none.", () -> {
             CopyKeeper x = with("library 0;library 9 1;work 2 1;holds 0 0 1;holds 1 0 1;");
@@ -675,21 +760,27 @@ public final class BoundaryOfQuestions extends Sheet {
             is("SPACE", 10, x.library(2, 9));
         });
         holds(6, "copy by copy, what MAY GO, always of the WORK of greatest SIZE (of like ones the first)", () -> {
-            CopyKeeper x = with("library 9 1;library 1;work 4 1;work 4 1;work 5 0;holds 0 0 1;holds 0 1 1;holds 1 0 2;");
-            // 0 takes WORK 0, the first of SIZE 4; 1 takes the other copy of it that may go
-            is("SPACE", 8, x.library(0, 9));
-            is("1 has one of its two left, as it must", 0, x.library(0, 10));
-            x.keep(0, 2);
-            is("0 takes the one that may go", 4, x.library(0, 9));
+            // 1 needs the one copy of WORK 0 that may go; 0 takes one copy
+            CopyKeeper x = with("library 9 1;library 0 0;work 4 1;work 4 0;work 5 0;holds 0 0 1;holds 0 1 1;holds 1 0 1;");
+            is("of SIZE 4 the first, WORK 0", 4, x.library(0, 9));
             is("1 lacks", 2, x.library(0, 10));
-            is("from 1: it has it; of WORK 1 none may go", 4, x.library(1, 9));
+            is("from 1 on: 0 takes WORK 1", 8, x.library(1, 9));
             is("none lacks", 0, x.library(1, 10));
             x.own(0, 2, 1);
-            is("the greatest SIZE, then WORK 0 by 1", 9, x.library(0, 9));
+            is("of SIZE 5 WORK 2; 1 takes WORK 0", 9, x.library(0, 9));
             is("none lacks", 0, x.library(0, 10));
             x.promise(0, 2, 1, 0);
-            is("PROMISED: WORK 0 by 0", 4, x.library(0, 9));
+            is("WORK 2 MAY not go", 4, x.library(0, 9));
             is("1 lacks", 2, x.library(0, 10));
+            x.promise(0, 0, 1, 0);
+            is("WORK 0 neither: WORK 1", 8, x.library(0, 9));
+            is("none lacks", 0, x.library(0, 10));
+            x.promise(0, 0, 0, 0);
+            x.room(0, 1, 2);
+            is("one of WORK 0, one of WORK 1", 8, x.library(0, 9));
+            is("1 lacks", 2, x.library(0, 10));
+            x.keep(0, 2);
+            is("none of WORK 0 MAY go", 4, x.library(0, 9));
         });
         holds(6, "as many as its NEED or its WISH, if that is more (as it is now)", () -> {
             CopyKeeper x = with("library 1 0;work 1 0;holds 0 0 3;");
@@ -920,6 +1011,56 @@ public final class BoundaryOfQuestions extends Sheet {
             x.own(0, 1, 1);
             is("1 ahead of 0: 5 and 1", 6, x.count(27));
             same("1 0 2", "102", best(x));
+        });
+    }
+
+    interface Question {
+        int ask(CopyKeeper x);
+    }
+
+    private static List<Question> questions(CopyKeeper of) {
+        List<Question> all = new ArrayList<>();
+        for (int i = 0; i < 28; i++) {
+            int k = i;
+            all.add(x -> x.count(k));
+        }
+        for (int i = 0; i < of.count(0); i++) for (int k : new int[] {4, 6, 9, 10, 11, 12}) {
+            int l = i;
+            all.add(x -> x.library(l, k));
+        }
+        for (int i = 0; i < of.count(1); i++) for (int k : new int[] {5, 6, 9, 10}) {
+            int w = i;
+            all.add(x -> x.work(w, k));
+        }
+        all.add(x -> x.held(0, 0, 5));
+        all.add(x -> x.lack(1));
+        all.add(x -> x.order(NONE));
+        for (int i = 0; i < 3; i++) {
+            int k = i;
+            all.add(x -> x.fits(k));
+            all.add(x -> x.drawn(7654321, 40, k));
+            if (k < 2) all.add(x -> x.look(k));
+        }
+        return all;
+    }
+
+    private static void alone() {
+        holds(5, "Nothing is promised beyond the answers and state changes described above", () -> {
+            String[] texts = {"library 2 1;library 3 2;work 3 1;work 5 1;holds 0 0 3;holds 0 1 1;holds 1 0 1;holds 1 1 3;promise 0 0 1 4;",
+                "library 1;library 3;work 3 4;work 5 1;holds 0 0 3;holds 0 1 1;holds 1 0 1;promise 0 1 1 4;"};
+            for (String text : texts) {
+                List<Question> all = questions(with(text));
+                int[] due = new int[all.size()];
+                for (int i = 0; i < due.length; i++) due[i] = all.get(i).ask(with(text));
+                // no question changes what another one answers behind it
+                for (int i = 0; i < due.length; i++) {
+                    CopyKeeper x = with(text);
+                    for (int j = 0; j < due.length; j++) {
+                        all.get(i).ask(x);
+                        is("question " + j + " behind question " + i, due[j], all.get(j).ask(x));
+                    }
+                }
+            }
         });
     }
 }

@@ -166,6 +166,36 @@ public final class BoundaryOfTexts extends Sheet {
             is("LIBRARIES", 0, x.count(0));
             is("WORKS", 0, x.count(1));
         });
+        holds(3, "all anew", () -> {
+            // THE PLAN was asked for, and carried out, ahead of a smaller TEXT
+            CopyKeeper x = with("library 9;library 9;work 2 0;work 3 0;holds 0 0 3;holds 0 1 2;holds 1 1 3;");
+            same("THE PLAN", "32 03", plan(x));
+            is("desk", 0, read(x, "library 9;work 5 0;holds 0 0 1;"));
+            same("THE PLAN", "1", plan(x));
+            is("copies", 1, x.library(0, 4));
+            is("WON", 5, x.library(0, 5));
+            is("of the WORK", 1, x.work(0, 5));
+            is("carry", 1, x.carry());
+            is("HELD", 0, x.count(3));
+            is("undo", 0, x.undo());
+            is("HELD", 1, x.count(3));
+            is("desk of the greater one", 0, read(x, "library 9;library 9;work 2 0;work 3 0;holds 0 1 1;"));
+            same("THE PLAN", "01 00", plan(x));
+            is("carry", 1, x.carry());
+            is("HELD", 0, x.count(3));
+            is("desk with no PLAN", 0, read(x, "library 0;work 1 1;holds 0 0 1;"));
+            is("none", NONE, x.held(0, 0, 5));
+            is("carry", NONE, x.carry());
+            is("desk", 0, read(x, "library 9;work 1 0;holds 0 0 3;"));
+            same("THE PLAN", "3", plan(x));
+            is("desk without WORKS", 0, read(x, "library 9;"));
+            is("copies", 0, x.library(0, 4));
+            is("WON", 0, x.library(0, 5));
+            is("carry", 0, x.carry());
+            is("desk without LIBRARIES", 0, read(x, "work 1 0;"));
+            is("of the WORK", 0, x.work(0, 5));
+            is("carry", 0, x.carry());
+        });
         holds(3, "or the FAULT (the tape is empty then, too; all else stays, but STATUS).", () -> {
             CopyKeeper x = with("library 9;work 2 1;holds 0 0 3;promise 0 0 1 5;store 2;");
             is("years", 4, x.years(4));
@@ -334,6 +364,9 @@ public final class BoundaryOfTexts extends Sheet {
                 fault(clause, 0, NONE);
                 for (int i = 1; i < end; i++) fault(clause.substring(0, i) + clause.substring(end), 1, 0);
                 for (int i = 1; i < end; i++) fault(clause.substring(0, i) + " " + clause.substring(i), 1, 0);
+                for (int i = 0; i < end; i++) {
+                    for (char other : new char[] {'j', 'q', 'z'}) fault(clause.substring(0, i) + other + clause.substring(i + 1), 1, 0);
+                }
                 for (char more : new char[] {'a', 'm', 'z'}) {
                     fault(clause.substring(0, end) + more + clause.substring(end), 1, 0);
                     fault(more + clause, 1, 0);

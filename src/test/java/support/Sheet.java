@@ -35,11 +35,12 @@ abstract class Sheet {
         return start < 0 || end < 0 ? "" : DOCUMENT.substring(start, end);
     }
 
-    /** A sentence stands under the promise's heading, or under one of those that hold for all. */
+    /** A sentence stands under the promise's heading, or under one of those that go for all. */
     private static boolean stands(int number, String text) {
         String next = number < 27 ? "## Promise " + (number + 1) + ":" : "## Not promised";
         return part("## Promise " + number + ":", next).contains(text) || part("## Terms", "## Promise 1:").contains(text)
-                || part("## What it is", "## The public face").contains(text);
+                || part("## What it is", "## The public face").contains(text)
+                || DOCUMENT.substring(DOCUMENT.indexOf("## Not promised")).contains(text);
     }
 
     /** One test: a promise by its number, the sentence in the document's words, and what is asked. */

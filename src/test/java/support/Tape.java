@@ -1,10 +1,19 @@
-/** Feeds texts. */
+/** Makes texts, and feeds them. */
 final class Tape {
     interface Feeder {
         int feed(int a, int b, int c, int d, int e);
     }
 
     private Tape() {
+    }
+
+    /** A clause of each LIBRARY and each WORK: the word, both of them, and what stands behind. */
+    static String pairs(int libraries, int works, String word, String end) {
+        StringBuilder all = new StringBuilder();
+        for (int l = 0; l < libraries; l++) {
+            for (int w = 0; w < works; w++) all.append(word).append(' ').append(l).append(' ').append(w).append(' ').append(end).append(';');
+        }
+        return all.toString();
     }
 
     /** Feeds a text, with blanks behind it up to twenty bytes; answers the text's length. */
